@@ -344,6 +344,9 @@ public final class PromiseTest {
         drawingFault(parts + "+to", 1, parts.length() + 1);
         drawingFault(parts + ";disc 1 1", 4, parts.length() + 8);
         drawingFault(small, 1, 8);
+        drawingFault(times(";", 400), 1, 0);
+        drawingFault("disc 1 " + times("1 ", 3) + times(";", 387), 1, 14);
+        rightFault(times("%", 400), 1, 0);
     }
 
     private static void bars() {
@@ -368,6 +371,10 @@ public final class PromiseTest {
         C.due("fault()", x.fault(), 0);
         C.refused(x, "a 13th with a fault", Check.bar(x, "5"), 4);
         C.due("count(3)", x.count(3), 12);
+        x.wall(1, 1, 0, 0);
+        Check.draw(x, "say 1 abcdefgh 0 0; say 1 y 0 0");
+        x.sketch(0, 0);
+        C.due("eleven of twelve are shown", x.sketchOf(10), 11);
     }
 
     private static void rightFault(String text, int fault, int place) {
@@ -721,12 +728,15 @@ public final class PromiseTest {
         C.due("liked(0, 0)", x.liked(0, 0), 8);
         C.due("liked(0, 1)", x.liked(0, 1), 1);
         C.due("liked(1, 0)", x.liked(1, 0), 5);
+        C.yes("of the last and the first neighbour", x.vote(99, 0, 1, 2) && x.vote(0, 1, 0, 2) && x.vote(0, 0, 1, 4));
+        C.due("they are three", x.count(10), 7);
+        C.due("liked(0, 1)", x.liked(0, 1), 7);
         C.yes("the latest counts", x.vote(8, 0, 0, 0));
         C.due("liked(0, 0)", x.liked(0, 0), 3);
-        C.due("count(10)", x.count(10), 4);
+        C.due("count(10)", x.count(10), 7);
         x.wish(0, 0, 4);
         C.due("with the wish", x.liked(0, 0), 43);
-        int told = 4;
+        int told = 7;
         for (int n = 0; n < 100; n++) {
             for (int p = 0; p < 4 && told < 300; p++) {
                 int before = x.count(10);
