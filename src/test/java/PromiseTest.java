@@ -44,6 +44,7 @@ public final class PromiseTest {
         led();
         counts();
         troubles();
+        fullHouse();
         C.end();
     }
 
@@ -863,6 +864,15 @@ public final class PromiseTest {
         y.wish(0, 0, 2);
         y.wish(0, 1, 2);
         C.due("one painter, two walls", y.give(3), 20);
+        WallHouse z = openTown(3, 4);
+        z.wish(0, 0, 1);
+        z.wish(1, 0, 2);
+        z.wish(2, 2, 1);
+        z.wish(3, 2, 2);
+        C.due("a wall that none wants between", z.give(7), 40);
+        C.due("given(0)", z.given(0), 1);
+        C.due("given(1)", z.given(1), -2);
+        C.due("given(2)", z.given(2), 3);
         C.due("none is above all: the first has it", y.given(0), 0);
         C.due("given(1)", y.given(1), -2);
     }
@@ -1426,5 +1436,66 @@ public final class PromiseTest {
         x.pale(1);
         C.due("0 it wasn't", x.trouble(), 0);
         C.due("it is told again", x.trouble(), 0);
+    }
+
+    /** Everything at its bound: no call may fail there. */
+    private static void fullHouse() {
+        C.part("I bounds");
+        WallHouse x = new WallHouse();
+        for (int i = 0; i < 16; i++) {
+            x.wall(16, 12, i % 4, i);
+            x.leave(i, 0, 9, true);
+        }
+        for (int i = 0; i < 10; i++) {
+            x.painter(i % 6, 99);
+            x.wish(i, 15, i);
+        }
+        for (int i = 0; i < 12; i++) {
+            Check.draw(x, "rect 7 0 0 2 1");
+            Check.bar(x, "bar");
+        }
+        for (int i = 0; i < 8; i++) {
+            Check.right(x, times("town 12%,", 7) + "town rest");
+        }
+        for (int i = 0; i < 60; i++) {
+            x.tin(i == 59 ? 7 : 1, 3);
+        }
+        for (int i = 0; i < 100; i++) {
+            x.tag(i % 2 * 15, 1 + i % 30);
+        }
+        C.yes("five lifts", x.lifts(5));
+        Check.sunny(x, 0, 35);
+        for (int i = 0; i < 40; i++) {
+            if (i % 16 == 0) {
+                x.pass(12);
+            }
+            C.due("work " + i, x.work(i % 16, i % 10, 11), i);
+        }
+        C.due("works over", x.count(5), 32);
+        C.due("no day is told for it", x.end(39), -2);
+        C.due("of those under way there is one on wall 7", x.about(7, 6), 39);
+        C.due("give the upper walls", x.give(0xfc00), 90);
+        C.due("given(15)", x.given(15), 9);
+        C.due("given(10)", x.given(10), -2);
+        C.due("ready(3649)", x.ready(3649), 0);
+        C.due("left of the only tin", x.left(59), 0);
+        C.due("it is painted over", x.shows(59), 0);
+        C.due("of no tin", x.led(15, 0, 0, 2), -2);
+        C.due("gets of the last right", x.gets(7, 1000, 2), 1000);
+        C.due("late", x.late(), late(36));
+        C.due("a round has no time for a wall of 50", x.round(499), 0);
+        C.due("one of them", x.round(600), 50);
+        C.due("late all the same", x.late(), late(36));
+        C.due("sketch", x.sketch(11, 15), 2);
+        C.due("no bar", x.sketchOf(10), 0);
+        C.due("pale", x.pale(100), 0);
+    }
+
+    private static int late(int today) {
+        int found = 0;
+        for (int i = 0; i < 100; i++) {
+            found += today > 1 + i % 30 ? 1 : 0;
+        }
+        return found;
     }
 }
