@@ -1730,7 +1730,7 @@ public final class WallHouse {
         private static final int MOST_VOTES = 300;
 
         int size;
-        final int[] styles = new int[MOST_PAINTERS];
+        private final int[] styles = new int[MOST_PAINTERS];
         private final int[] kins = new int[MOST_PAINTERS];
         private final int[] begun = new int[MOST_PAINTERS];
         private final int[] wishes = new int[MOST_PAINTERS * MOST_WALLS];
