@@ -77,4 +77,39 @@ final class Check {
             x.weather(day, 20, 0);
         }
     }
+
+    static void passTo(WallHouse x, int day) {
+        for (int turn = 0; turn < 40 && x.count(9) < day; turn++) {
+            x.pass(Math.min(100, day - x.count(9)));
+        }
+    }
+
+    static String times(String text, int n) {
+        StringBuilder all = new StringBuilder();
+        for (int i = 0; i < n; i++) {
+            all.append(text);
+        }
+        return all.toString();
+    }
+
+    /** A town with a wall of this size, LEAVE for it and a painter. */
+    static WallHouse town(int wide, int high, int side) {
+        WallHouse x = new WallHouse();
+        x.wall(wide, high, side, 0);
+        x.leave(0, 0, 9, true);
+        x.painter(0, 50);
+        return x;
+    }
+
+    static WallHouse openTown(int walls, int painters) {
+        WallHouse x = new WallHouse();
+        for (int i = 0; i < walls; i++) {
+            x.wall(1, 1, 0, 0);
+            x.leave(i, 0, 9, true);
+        }
+        for (int i = 0; i < painters; i++) {
+            x.painter(i % 6, 99);
+        }
+        return x;
+    }
 }

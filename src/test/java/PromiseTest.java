@@ -140,11 +140,11 @@ public final class PromiseTest {
         C.due("this year", x.about(0, 4), 1);
         C.yes("the next one", x.leave(0, 1, 1, false));
         C.due("not this year", x.about(0, 4), 0);
-        passTo(x, 364);
+        Check.passTo(x, 364);
         C.due("day 364", x.about(0, 4), 0);
         x.pass(1);
         C.due("day 365", x.about(0, 4), 1);
-        passTo(x, 729);
+        Check.passTo(x, 729);
         C.due("day 729", x.about(0, 4), 1);
         x.pass(1);
         C.due("day 730", x.about(0, 4), 0);
@@ -158,20 +158,14 @@ public final class PromiseTest {
         x.leave(0, 2, 9, false);
         x.sold(0, 98);
         C.due("it doesn't carry", x.about(0, 4), 0);
-        passTo(x, 1095);
+        Check.passTo(x, 1095);
         C.due("nor in the next year", x.about(0, 4), 0);
         C.yes("told anew", x.leave(0, 3, 9, true));
         C.due("it holds again", x.about(0, 4), 1);
         x.leave(0, 4, 9, false);
         x.sold(0, 97);
-        passTo(x, 1460);
+        Check.passTo(x, 1460);
         C.due("years to come went too", x.about(0, 4), 0);
-    }
-
-    private static void passTo(WallHouse x, int day) {
-        while (x.count(9) < day) {
-            x.pass(Math.min(100, day - x.count(9)));
-        }
     }
 
     private static void pairs() {
@@ -309,34 +303,26 @@ public final class PromiseTest {
         C.due("the last one stays", x.sketch(11, 0), 1);
     }
 
-    private static String times(String text, int n) {
-        StringBuilder all = new StringBuilder();
-        for (int i = 0; i < n; i++) {
-            all.append(text);
-        }
-        return all.toString();
-    }
-
     private static void drawingLimits() {
         C.part("10 drawing: many");
         String step = "if 1=1[";
-        drawingFault(times(step, 7), 4, 48);
-        drawingGood(times(step, 6) + "disc 1 1 1 1" + times("]", 6));
-        drawingGood(times("if 1=1[disc 1 1 1 1];", 7) + "disc 1 1 1 1");
+        drawingFault(Check.times(step, 7), 4, 48);
+        drawingGood(Check.times(step, 6) + "disc 1 1 1 1" + Check.times("]", 6));
+        drawingGood(Check.times("if 1=1[disc 1 1 1 1];", 7) + "disc 1 1 1 1");
         drawingFault("rect 1 (((((((1", 4, 13);
         drawingGood("disc 1 ((((((1)))))) 1 1");
         drawingGood("disc 1 (1)+(1)+(1)+(1)+(1)+(1)+(1)+(1) 1 1");
         drawingFault("disc 1 ((((((1))))))+((((((( 1 1", 4, 27);
         // 40 steps of eight bytes, none of which has a part but in its sums
         String small = "say 0a00";
-        drawingFault("say 0a0 0;" + times("say 0a0 0;", 38) + "say 0a0 0;", 1, 400);
-        String forty = times("say 0a0i;", 39) + "say 0a0i";
+        drawingFault("say 0a0 0;" + Check.times("say 0a0 0;", 38) + "say 0a0 0;", 1, 400);
+        String forty = Check.times("say 0a0i;", 39) + "say 0a0i";
         drawingGood(forty);
         drawingFault(forty + ";say 0a0i", 4, 360);
         drawingFault(forty + ";line", 2, 360);
         drawingFault(forty + ";if", 4, 360);
         drawingFault(forty + ";5", 1, 360);
-        String parts = "disc 1 1 1 " + times("1+", 117) + "1";
+        String parts = "disc 1 1 1 " + Check.times("1+", 117) + "1";
         drawingGood(parts);
         drawingFault(parts + "+1", 4, parts.length() + 1);
         drawingFault(parts + "+i", 4, parts.length() + 1);
@@ -345,9 +331,9 @@ public final class PromiseTest {
         drawingFault(parts + "+to", 1, parts.length() + 1);
         drawingFault(parts + ";disc 1 1", 4, parts.length() + 8);
         drawingFault(small, 1, 8);
-        drawingFault(times(";", 400), 1, 0);
-        drawingFault("disc 1 " + times("1 ", 3) + times(";", 387), 1, 14);
-        rightFault(times("%", 400), 1, 0);
+        drawingFault(Check.times(";", 400), 1, 0);
+        drawingFault("disc 1 " + Check.times("1 ", 3) + Check.times(";", 387), 1, 14);
+        rightFault(Check.times("%", 400), 1, 0);
     }
 
     private static void bars() {
@@ -408,7 +394,7 @@ public final class PromiseTest {
         rightFault("painter 50%, owner 50%, town 1%", 3, 29);
         rightFault("town 1", 1, 6);
         rightFault("town 1!", 1, 6);
-        String eight = times("town 1%,", 7) + "town 1%";
+        String eight = Check.times("town 1%,", 7) + "town 1%";
         rightFault(eight + ",town", 4, 64);
         rightFault(eight + ",rest", 1, 64);
         rightFault(eight + ",tower", 2, 64);
@@ -643,18 +629,9 @@ public final class PromiseTest {
         C.due("a work that doesn't", x.work(0, 0, 1), 0);
     }
 
-    /** A town with a wall of this size, LEAVE for it and a painter. */
-    private static WallHouse town(int wide, int high, int side) {
-        WallHouse x = new WallHouse();
-        x.wall(wide, high, side, 0);
-        x.leave(0, 0, 9, true);
-        x.painter(0, 50);
-        return x;
-    }
-
     private static void unlike() {
         C.part("18 unlike");
-        WallHouse x = town(3, 2, 0);
+        WallHouse x = Check.town(3, 2, 0);
         x.wall(2, 3, 0, 0);
         x.wall(3, 2, 0, 0);
         C.due("ahead of any sketch", x.unlike(0), NONE);
@@ -753,21 +730,9 @@ public final class PromiseTest {
         C.due("count(10)", x.count(10), 300);
     }
 
-    private static WallHouse openTown(int walls, int painters) {
-        WallHouse x = new WallHouse();
-        for (int i = 0; i < walls; i++) {
-            x.wall(1, 1, 0, 0);
-            x.leave(i, 0, 9, true);
-        }
-        for (int i = 0; i < painters; i++) {
-            x.painter(i % 6, 99);
-        }
-        return x;
-    }
-
     private static void giving() {
         C.part("23 give, 24 given");
-        WallHouse x = openTown(8, 3);
+        WallHouse x = Check.openTown(8, 3);
         C.refused(x, "none", x.give(0), 1);
         C.refused(x, "wall 8", x.give(257), 1);
         C.refused(x, "below 0", x.give(-1), 1);
@@ -804,7 +769,7 @@ public final class PromiseTest {
 
     private static void givingBeside() {
         C.part("23 give: beside");
-        WallHouse x = openTown(3, 0);
+        WallHouse x = Check.openTown(3, 0);
         x.painter(2, 99);
         x.painter(2, 99);
         x.painter(3, 99);
@@ -833,7 +798,7 @@ public final class PromiseTest {
 
     private static void givingTies() {
         C.part("23 give: as good ones");
-        WallHouse x = openTown(3, 4);
+        WallHouse x = Check.openTown(3, 4);
         for (int p = 0; p < 4; p++) {
             for (int w = 0; w < 3; w++) {
                 x.wish(p, w, 3);
@@ -860,11 +825,11 @@ public final class PromiseTest {
         C.due("given(0)", x.given(0), 1);
         C.due("given(1)", x.given(1), 2);
         C.due("given(2)", x.given(2), 3);
-        WallHouse y = openTown(2, 1);
+        WallHouse y = Check.openTown(2, 1);
         y.wish(0, 0, 2);
         y.wish(0, 1, 2);
         C.due("one painter, two walls", y.give(3), 20);
-        WallHouse z = openTown(3, 4);
+        WallHouse z = Check.openTown(3, 4);
         z.wish(0, 0, 1);
         z.wish(1, 0, 2);
         z.wish(2, 2, 1);
@@ -879,7 +844,7 @@ public final class PromiseTest {
 
     private static void beginning() {
         C.part("25 work");
-        WallHouse x = town(2, 2, 0);
+        WallHouse x = Check.town(2, 2, 0);
         x.wall(2, 2, 0, 0);
         C.refused(x, "no drawing", x.work(0, 0, 0), 1);
         Check.draw(x, "rect 1 0 0 2 2");
@@ -910,7 +875,7 @@ public final class PromiseTest {
 
     private static void workStages() {
         C.part("26 workOf");
-        WallHouse x = town(5, 5, 0);
+        WallHouse x = Check.town(5, 5, 0);
         Check.draw(x, "disc 0 0 0 0");
         Check.draw(x, "rect 3 0 0 5 5");
         x.painter(1, 0);
@@ -944,7 +909,7 @@ public final class PromiseTest {
         int[] cells = {0, 1, 24, 25, 48, 49, 192};
         int[] days = {1, 1, 1, 2, 2, 3, 8};
         for (int i = 0; i < cells.length; i++) {
-            WallHouse x = town(16, 12, 0);
+            WallHouse x = Check.town(16, 12, 0);
             Check.draw(x, "rect 1 0 0 16 " + cells[i] / 16 + ";rect 1 0 " + cells[i] / 16 + " " + cells[i] % 16 + " 1");
             x.work(0, 0, 0);
             C.due("cells", x.workOf(0, 6), cells[i]);
@@ -954,7 +919,7 @@ public final class PromiseTest {
 
     private static void liftsByNumber() {
         C.part("28 lifts");
-        WallHouse x = openTown(4, 1);
+        WallHouse x = Check.openTown(4, 1);
         Check.draw(x, "disc 1 0 0 0");
         C.denied(x, "lifts(0)", x.lifts(0), 2);
         C.denied(x, "lifts(6)", x.lifts(6), 2);
@@ -973,7 +938,7 @@ public final class PromiseTest {
                 C.due("day " + day + ", work " + i, x.workOf(i, 3), stages[day][i]);
             }
         }
-        WallHouse y = openTown(3, 1);
+        WallHouse y = Check.openTown(3, 1);
         Check.draw(y, "disc 1 0 0 0");
         for (int i = 0; i < 3; i++) {
             y.work(i, 0, 0);
@@ -990,7 +955,7 @@ public final class PromiseTest {
 
     private static void foretelling() {
         C.part("29 end, 30 ready");
-        WallHouse x = openTown(3, 1);
+        WallHouse x = Check.openTown(3, 1);
         Check.draw(x, "disc 1 0 0 0");
         C.due("end of none", x.end(0), NONE);
         x.work(0, 0, 0);
@@ -1024,7 +989,7 @@ public final class PromiseTest {
 
     private static void weather() {
         C.part("27 weather");
-        WallHouse x = town(1, 1, 0);
+        WallHouse x = Check.town(1, 1, 0);
         Check.draw(x, "disc 1 0 0 0");
         x.work(0, 0, 0);
         C.denied(x, "day -1", x.weather(-1, 0, 0), 2);
@@ -1049,7 +1014,7 @@ public final class PromiseTest {
 
     private static void tins() {
         C.part("31 tin, 32 left, 46 shows");
-        WallHouse x = town(4, 2, 0);
+        WallHouse x = Check.town(4, 2, 0);
         C.refused(x, "colour -1", x.tin(-1, 1), 2);
         C.refused(x, "colour 8", x.tin(8, 1), 2);
         C.refused(x, "cells 0", x.tin(0, 0), 2);
@@ -1095,7 +1060,7 @@ public final class PromiseTest {
     }
 
     private static void tinsOfTwoWorks() {
-        WallHouse x = openTown(2, 1);
+        WallHouse x = Check.openTown(2, 1);
         Check.draw(x, "disc 1 0 0 0");
         x.tin(1, 1);
         x.work(1, 0, 0);
@@ -1117,7 +1082,7 @@ public final class PromiseTest {
         C.due("pass(100)", x.pass(100), 0);
         C.due("trouble()", x.trouble(), 0);
         C.due("today", x.count(9), 100);
-        passTo(x, 3600);
+        Check.passTo(x, 3600);
         C.refused(x, "pass(50)", x.pass(50), 2);
         C.due("it stays", x.count(9), 3600);
         C.due("pass(49)", x.pass(49), 0);
@@ -1130,7 +1095,7 @@ public final class PromiseTest {
 
     private static void replacing() {
         C.part("34 cell");
-        WallHouse x = town(2, 1, 0);
+        WallHouse x = Check.town(2, 1, 0);
         Check.draw(x, "disc 5 0 0 0");
         Check.draw(x, "disc 6 1 0 0");
         C.due("cell(1, 0, 0)", x.cell(1, 0, 0), NONE);
@@ -1166,7 +1131,7 @@ public final class PromiseTest {
         C.part("35 looks");
         int[] fades = {1, 2, 3, 2};
         for (int side = 0; side < 4; side++) {
-            WallHouse x = town(2, 1, side);
+            WallHouse x = Check.town(2, 1, side);
             Check.draw(x, "disc 4 0 0 0; disc 5 1 0 0");
             C.due("looks(1, 0)", x.looks(1, 0), NONE);
             C.due("looks(0, 8)", x.looks(0, 8), NONE);
@@ -1176,21 +1141,21 @@ public final class PromiseTest {
             C.due("not over", x.looks(0, 4), -2);
             x.pass(4);
             C.due("new", x.looks(0, 0), 100);
-            passTo(x, 3 + 29);
+            Check.passTo(x, 3 + 29);
             C.due("29 days", x.looks(0, 5), 100);
             x.pass(1);
             C.due("30 days", x.looks(0, 4), 100 - fades[side]);
             C.due("30 days, above 4", x.looks(0, 5), 99 - fades[side]);
-            passTo(x, 3 + 300);
+            Check.passTo(x, 3 + 300);
             C.due("300 days", x.looks(0, 7), 100 - 10 * (fades[side] + 1));
-            passTo(x, 3630);
+            Check.passTo(x, 3630);
             C.due("0 at least", x.looks(0, 4), Math.max(0, 100 - 120 * fades[side]));
         }
     }
 
     private static void pale() {
         C.part("36 pale");
-        WallHouse x = town(3, 1, 2);
+        WallHouse x = Check.town(3, 1, 2);
         x.wall(1, 1, 0, 0);
         Check.draw(x, "disc 4 0 0 1; disc 5 2 0 0");
         Check.draw(x, "disc 4 9 9 0");
@@ -1205,12 +1170,12 @@ public final class PromiseTest {
         x.pass(4);
         C.due("two over", x.count(5), 2);
         C.due("new", x.pale(100), 0);
-        passTo(x, 33);
+        Check.passTo(x, 33);
         // 97, 97 and 96: 290 / 3 is 96
         C.due("by 96", x.pale(96), 0);
         C.due("by 97", x.pale(97), 1);
         C.due("by 0", x.pale(0), 0);
-        passTo(x, 3600);
+        Check.passTo(x, 3600);
         C.due("gone", x.pale(1), 1);
         C.due("never below 0", x.pale(0), 0);
     }
@@ -1348,7 +1313,7 @@ public final class PromiseTest {
 
     private static void led() {
         C.part("45 led");
-        WallHouse x = town(2, 2, 0);
+        WallHouse x = Check.town(2, 2, 0);
         x.painter(1, 0);
         Check.draw(x, "rect 3 0 0 2 1");
         Check.sunny(x, 0, 7);
@@ -1375,7 +1340,7 @@ public final class PromiseTest {
 
     private static void counts() {
         C.part("47 count");
-        WallHouse x = town(1, 1, 0);
+        WallHouse x = Check.town(1, 1, 0);
         x.painter(0, 0);
         for (int i = 0; i < 3; i++) {
             Check.draw(x, "disc 1 0 0 0");
@@ -1410,7 +1375,7 @@ public final class PromiseTest {
 
     private static void troubles() {
         C.part("48 trouble");
-        WallHouse x = town(1, 1, 0);
+        WallHouse x = Check.town(1, 1, 0);
         x.wall(0, 0, 0, 0);
         x.about(0, 0);
         x.about(9, 9);
@@ -1455,7 +1420,7 @@ public final class PromiseTest {
             Check.bar(x, "bar");
         }
         for (int i = 0; i < 8; i++) {
-            Check.right(x, times("town 12%,", 7) + "town rest");
+            Check.right(x, Check.times("town 12%,", 7) + "town rest");
         }
         for (int i = 0; i < 60; i++) {
             x.tin(i == 59 ? 7 : 1, 3);
