@@ -869,10 +869,29 @@ public final class WallHouse {
         static final int ABOVE = 3;
         static final int MANY = 4;
 
+        /** The numbers of the WORDS that texts know, as KNOWN has them. */
+        static final int RECT = 0;
+        static final int DISC = 1;
+        static final int SAY = 2;
+        static final int EACH = 3;
+        static final int IF = 4;
+        static final int FROM = 5;
+        static final int TO = 6;
+        static final int FIRST_VAR = 7;
+        static final int LAST_VAR = 11;
+        static final int WIDE = 12;
+        static final int HIGH = 13;
+        static final int FIRST_WHO = 14;
+        static final int LAST_WHO = 17;
+        static final int REST = 18;
+
+        private static final String KNOWN =
+                "rect disc say each if from to i j k m n wide high painter owner town school rest ";
         private static final int MOST_DIGITS = 3;
         private static final String SIGNS = "[]();<>=+-*/,%";
 
         final int[] kinds = new int[MOST_BYTES + 1];
+        final byte[] names = new byte[MOST_BYTES + 1];
         final int[] starts = new int[MOST_BYTES + 1];
         final long[] values = new long[MOST_BYTES + 1];
         int last;
@@ -940,7 +959,25 @@ public final class WallHouse {
             }
             kinds[last] = next - from <= MOST_LETTERS ? WORD : BAD;
             values[last] = packed;
+            names[last] = (byte) nameOf(packed);
             return next;
+        }
+
+        /** Words are told apart as they are cut, so that readers need not spell them. */
+        private static int nameOf(long word) {
+            int number = 0;
+            long packed = 0;
+            for (int i = 0; i < KNOWN.length(); i++) {
+                if (KNOWN.charAt(i) != ' ') {
+                    packed = withLetter(packed, KNOWN.charAt(i));
+                } else if (packed == word) {
+                    return number;
+                } else {
+                    packed = 0;
+                    number++;
+                }
+            }
+            return NONE;
         }
 
         private int takeWhole(byte[] text, int from, int end) {
@@ -968,15 +1005,9 @@ public final class WallHouse {
             return kind() == SIGN ? (int) value() : 0;
         }
 
-        boolean is(String word) {
-            if (kind() != WORD) {
-                return false;
-            }
-            long packed = 0;
-            for (int i = 0; i < word.length(); i++) {
-                packed = withLetter(packed, word.charAt(i));
-            }
-            return packed == value();
+        /** The number of the known WORD that stands here, NONE if it is another TOKEN. */
+        int name() {
+            return at >= 0 && at < names.length && kinds[at] == WORD ? names[at] : NONE;
         }
 
         void advance() {
@@ -1075,7 +1106,6 @@ public final class WallHouse {
 
     /** Reads the text of a DRAWING; [ and ( are kept on rows, so that no call goes deeper by them. */
     private static final class DrawingReader {
-        private static final String VARS = "ijkmn";
         private static final int MOST_SIGNS = 3 * (Drawing.MOST_DEEP + 1);
 
         private final Tokens in;
@@ -1116,28 +1146,12 @@ public final class WallHouse {
             }
         }
 
-        private int stepKind() {
-            if (in.is("rect")) {
-                return Drawing.RECT;
-            }
-            if (in.is("disc")) {
-                return Drawing.DISC;
-            }
-            if (in.is("say")) {
-                return Drawing.SAY;
-            }
-            if (in.is("each")) {
-                return Drawing.EACH;
-            }
-            return in.is("if") ? Drawing.IF : NONE;
-        }
-
         private boolean readStep() {
             if (in.kind() != Tokens.WORD) {
                 return in.fail(Tokens.FORM);
             }
-            int kind = stepKind();
-            if (kind == NONE) {
+            int name = in.name();
+            if (name < Tokens.RECT || name > Tokens.IF) {
                 return in.fail(Tokens.UNKNOWN);
             }
             if (steps >= Drawing.MOST_STEPS) {
@@ -1146,11 +1160,11 @@ public final class WallHouse {
             steps++;
             out.put(Drawing.STEP, 0);
             in.advance();
-            switch (kind) {
-                case Drawing.RECT: return readShape(kind, 4);
-                case Drawing.DISC: return readShape(kind, 3);
-                case Drawing.SAY: return readSay();
-                case Drawing.EACH: return readEach();
+            switch (name) {
+                case Tokens.RECT: return readShape(Drawing.RECT, 4);
+                case Tokens.DISC: return readShape(Drawing.DISC, 3);
+                case Tokens.SAY: return readSay();
+                case Tokens.EACH: return readEach();
                 default: return readIf();
             }
         }
@@ -1202,23 +1216,23 @@ public final class WallHouse {
         }
 
         private boolean readEach() {
-            int variable = variableHere();
-            if (variable == NONE) {
+            int name = in.name();
+            if (!isVariable(name)) {
                 return in.fail(Tokens.FORM);
             }
             in.advance();
-            if (!in.is("from")) {
+            if (in.name() != Tokens.FROM) {
                 return in.fail(Tokens.FORM);
             }
             in.advance();
             if (!readSum()) {
                 return false;
             }
-            if (!in.is("to")) {
+            if (in.name() != Tokens.TO) {
                 return in.fail(Tokens.FORM);
             }
             in.advance();
-            return readSum() && openBracket(Drawing.EACH, variable);
+            return readSum() && openBracket(Drawing.EACH, name - Tokens.FIRST_VAR);
         }
 
         private boolean readIf() {
@@ -1316,38 +1330,32 @@ public final class WallHouse {
             }
         }
 
-        private int variableHere() {
-            for (int i = 0; i < VARS.length(); i++) {
-                if (in.kind() == Tokens.WORD && in.value() == Tokens.withLetter(0, VARS.charAt(i))) {
-                    return i;
-                }
-            }
-            return NONE;
+        private static boolean isVariable(int name) {
+            return name >= Tokens.FIRST_VAR && name <= Tokens.LAST_VAR;
         }
 
         private boolean readPart() {
-            int deed = Drawing.WHOLE;
-            int value = (int) in.value();
-            if (in.kind() == Tokens.WORD) {
-                value = variableHere();
-                deed = value != NONE ? Drawing.VAR : in.is("wide") ? Drawing.WIDE : Drawing.HIGH;
-                if (deed == Drawing.HIGH && !in.is("high")) {
-                    return in.fail(isKept() ? Tokens.FORM : Tokens.UNKNOWN);
-                }
-            } else if (in.kind() != Tokens.WHOLE) {
+            int name = in.name();
+            if (in.kind() != Tokens.WHOLE && in.kind() != Tokens.WORD) {
                 return in.fail(Tokens.FORM);
+            }
+            if (in.kind() == Tokens.WORD && (name < Tokens.FIRST_VAR || name > Tokens.HIGH)) {
+                boolean isKept = name >= Tokens.RECT && name <= Tokens.TO;
+                return in.fail(isKept ? Tokens.FORM : Tokens.UNKNOWN);
             }
             if (parts >= Drawing.MOST_PARTS) {
                 return in.fail(Tokens.MANY);
             }
             parts++;
-            out.put(deed, value);
+            if (in.kind() == Tokens.WHOLE) {
+                out.put(Drawing.WHOLE, (int) in.value());
+            } else if (isVariable(name)) {
+                out.put(Drawing.VAR, name - Tokens.FIRST_VAR);
+            } else {
+                out.put(name == Tokens.WIDE ? Drawing.WIDE : Drawing.HIGH, 0);
+            }
             in.advance();
             return true;
-        }
-
-        private boolean isKept() {
-            return stepKind() != NONE || in.is("from") || in.is("to");
         }
     }
 
@@ -1640,32 +1648,20 @@ public final class WallHouse {
             return true;
         }
 
-        private int whoHere() {
-            if (in.is("painter")) {
-                return 0;
-            }
-            if (in.is("owner")) {
-                return 1;
-            }
-            if (in.is("town")) {
-                return TOWN;
-            }
-            return in.is("school") ? 3 : NONE;
-        }
-
         private boolean readLine() {
-            if (in.kind() != Tokens.WORD || in.is("rest")) {
+            int name = in.name();
+            if (in.kind() != Tokens.WORD || name == Tokens.REST) {
                 return in.fail(Tokens.FORM);
             }
-            int who = whoHere();
-            if (who == NONE) {
+            if (name < Tokens.FIRST_WHO || name > Tokens.LAST_WHO) {
                 return in.fail(Tokens.UNKNOWN);
             }
             if (lineCounts[size] >= MOST_LINES) {
                 return in.fail(Tokens.MANY);
             }
             in.advance();
-            if (in.is("rest")) {
+            int who = name - Tokens.FIRST_WHO;
+            if (in.name() == Tokens.REST) {
                 addLine(who, REST);
                 in.advance();
                 return true;
