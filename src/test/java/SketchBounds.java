@@ -423,6 +423,11 @@ final class SketchBounds extends Bounds {
         c.due("spent", x.sketchOf(9), 1);
         x.sketch(0, 0);
         c.due("another isn't", x.sketchOf(9), 0);
+        for (int i = 0; i < 8; i++) {
+            x.sketch(2, 0);
+        }
+        c.due("nor behind many that were", x.sketch(0, 0), 2);
+        c.due("all of its steps are done", x.sketchOf(8), 1500);
         c.due("a work of one that is spent", x.work(0, 0, 1), 0);
         finish(x);
         c.due("has what is painted", x.cell(0, 1, 0), 2);

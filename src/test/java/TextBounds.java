@@ -663,6 +663,15 @@ final class TextBounds extends Bounds {
         drawingFault("if 1=1[" + within + ";say 0a0i]", 4, 7 + 351);
         drawingFault("if 1=1[" + within + "];say 0a0i", 4, 8 + 351);
         drawingGood("if 1=1[say 0a0i;if 1=1[say 0a0i]];" + Check.times("say 0a0i;", 35) + "say 0a0i");
+        WallHouse x = new WallHouse();
+        x.wall(1, 1, 0, 0);
+        for (int i = 0; i < 12; i++) {
+            c.due("each text has its own forty", Check.draw(x, FORTY), i);
+            c.refused(x, "behind it one of 41", Check.draw(x, FORTY + ";say 0a0i"), 4);
+            x.sketch(i, 0);
+            c.due("all forty are done", x.sketchOf(8), 40);
+            c.due("and say their word", x.sketchOf(0), 1);
+        }
     }
 
     private void partLimit() {
@@ -681,6 +690,17 @@ final class TextBounds extends Bounds {
         drawingFault(more, 4, more.length() - 2);
         drawingGood("disc 1 1 1 ((((((" + Check.times("i*", 117) + "1))))))");
         drawingGood("disc 1 1 1 " + Check.times("(1)+", 77) + Check.times("1+", 40) + "1");
+        WallHouse x = new WallHouse();
+        x.wall(16, 1, 0, 0);
+        String full = Check.times("each n from 1 to 1[", 6) + "say 5a3+n" + Check.times("+1-1", 52) + " 0" + "]]]]]]";
+        for (int i = 0; i < 3; i++) {
+            c.refused(x, "one of 121", Check.draw(x, PARTS + "+1"), 4);
+            c.due("each text has its own 120", Check.draw(x, PARTS), 2 * i);
+            c.due("all of them are reckoned", x.sketch(2 * i, 0), 16);
+            c.due("six deep with 119", Check.draw(x, full), 2 * i + 1);
+            x.sketch(2 * i + 1, 0);
+            c.due("it is painted, too", x.sketched(4, 0), 5);
+        }
     }
 
     private void deepBrackets() {
@@ -693,6 +713,13 @@ final class TextBounds extends Bounds {
         drawingGood(six + DOT + "];if 1=1[" + DOT + "]]]]]]");
         drawingFault(six + DOT + "];if 1=1[if 1=1[", 4, 42 + 12 + 9 + 6);
         drawingGood(Check.times("if 1=1[" + DOT + "];", 10) + DOT);
+        WallHouse x = new WallHouse();
+        for (int i = 0; i < 3; i++) {
+            c.refused(x, "none is closed", Check.draw(x, six + "dot"), 4);
+            c.due("each text has its own six", Check.draw(x, six + DOT + "]]]]]]"), i);
+            c.refused(x, "none is open behind it", Check.draw(x, DOT + "]"), 4);
+            c.due("where()", x.where(), 12);
+        }
     }
 
     private void deepParens() {
@@ -705,6 +732,15 @@ final class TextBounds extends Bounds {
         drawingFault("disc 1 (((((1)+(((1", 4, 17);
         drawingGood("disc 1 (1)+(1)+(1)+(1)+(1)+(1)+(1) 0 0");
         drawingFault("disc 1 ((((((1)))))))", 1, 20);
+        sumIs("1+2*(1+2*(1+2*(1+2*(1+2*(1+2*(1+2*3))))))", 511);
+        WallHouse x = new WallHouse();
+        x.wall(16, 1, 0, 0);
+        for (int i = 0; i < 3; i++) {
+            c.refused(x, "none is closed", Check.draw(x, "disc 1 1+2*(1+2*(1+2*(1+2*(1+2*(1+2*(1+2*!"), 4);
+            c.due("each text has its own six", Check.draw(x, "disc 1 1+2*(1+2*(3)) 0 0"), i);
+            x.sketch(i, 0);
+            c.due("as it is reckoned", x.sketched(15, 0), 1);
+        }
     }
 
     // ---- texts of rights

@@ -420,6 +420,23 @@ final class WallBounds extends Bounds {
         c.due("told not, once and the other way", x.give(3), 170);
         x.beside(0, 1, false);
         c.due("told not again", x.give(3), 170);
+        Check.draw(x, DOT);
+        x.work(0, 0, 0);
+        x.work(2, 0, 0);
+        c.due("nor for the other one alone", x.give(2), 90);
+        x.beside(1, 2, true);
+        c.due("told of the one", x.give(2), 0);
+        x.beside(1, 2, false);
+        c.due("told not of it", x.give(2), 90);
+        x.beside(2, 1, true);
+        c.due("told of the other", x.give(2), 0);
+        x.beside(2, 1, false);
+        c.due("told not of that", x.give(2), 90);
+        x.beside(0, 1, true);
+        x.beside(0, 1, false);
+        x.beside(1, 0, true);
+        x.beside(1, 0, false);
+        c.due("and so with a lesser one", x.give(2), 90);
     }
 
     private void minutesRange() {
