@@ -108,6 +108,18 @@ final class PainterBounds extends Bounds {
         c.due("both", x.liked(0, 0), 9);
         c.yes("a vote of 0", x.vote(1, 0, 0, 0));
         c.due("is one", x.count(10), 3);
+        WallHouse y = Check.openTown(3, 0);
+        y.painter(0, 50);
+        y.painter(0, 50);
+        int told = 0;
+        for (int pair = 0; pair < 6; pair++) {
+            for (int n : new int[] {0, 1, 2, 97, 98, 99}) {
+                told++;
+                c.yes("each by itself", y.vote(n, pair / 3, pair % 3, 1));
+                c.due("so many count", y.count(10), told);
+            }
+            c.due("liked", y.liked(pair / 3, pair % 3), 6);
+        }
     }
 
     private void voteLatest() {
@@ -293,6 +305,16 @@ final class PainterBounds extends Bounds {
         c.due("a vote of 1", x.give(3), 1);
         c.due("given(0)", x.given(0), 1);
         c.due("the other", x.given(1), -2);
+        WallHouse y = Check.openTown(3, 4);
+        y.wish(0, 0, 1);
+        y.wish(1, 0, 2);
+        y.wish(2, 2, 1);
+        y.wish(3, 2, 2);
+        c.due("a wall between that none likes", y.give(7), 40);
+        c.due("the first", y.given(0), 1);
+        c.due("the one between", y.given(1), -2);
+        c.due("the last", y.given(2), 3);
+        c.due("it alone", y.give(2), 0);
     }
 
     private void besideAmongThem() {

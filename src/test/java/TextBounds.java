@@ -808,6 +808,11 @@ final class TextBounds extends Bounds {
         Check.right(x, "town 60%, owner 60%");
         c.due("also behind a refused one", Check.right(x, "town 60%"), 2);
         c.due("which left nothing", x.gets(2, 100, 1), 0);
+        Check.right(x, "town 10%,owner 30%,school rest,owner 30%,!");
+        c.due("nor did one of many lines", Check.right(x, "town 60%"), 3);
+        c.due("to the owner", x.gets(3, 100, 1), 0);
+        c.due("to the school", x.gets(3, 100, 3), 0);
+        c.due("to the town", x.gets(3, 100, 2), 100);
     }
 
     private void rightLines() {

@@ -92,6 +92,19 @@ final class TownBounds extends Bounds {
         c.refused(x, "cleaned ones count, too", x.tag(0, 1), 3);
         x.pass(2);
         c.due("99 are late", x.late(), 99);
+        c.due("too many for a round", x.round(600), 0);
+        WallHouse y = new WallHouse();
+        y.wall(1, 1, 0, 0);
+        y.wall(1, 1, 0, 0);
+        y.minutes(0, 1, 1);
+        for (int i = 0; i < 100; i++) {
+            y.tag(i < 59 ? 1 : 0, i < 59 ? 1 : 2);
+        }
+        c.due("59 and their way, no time for 41", y.round(600), 59);
+        c.due("the 41", y.round(410), 41);
+        c.due("all hundred are clean", y.round(600), 0);
+        y.pass(10);
+        c.due("none is late", y.late(), 0);
     }
 
     private void cleanInOrder() {
@@ -253,6 +266,16 @@ final class TownBounds extends Bounds {
         x.tag(2, 5);
         c.due("where it stands is nearest", x.round(10), 1);
         c.denied(x, "wall 0", x.clean(6), 5);
+        WallHouse y = new WallHouse();
+        for (int i = 0; i < 4; i++) {
+            y.wall(1, 1, 0, 0);
+        }
+        for (int wall = 1; wall <= 3; wall++) {
+            y.tag(wall, 5);
+        }
+        c.due("the least number, told first", y.round(70), 1);
+        c.denied(y, "wall 1", y.clean(0), 5);
+        c.yes("walls 2 and 3 are left", y.clean(1) && y.clean(2));
     }
 
     private void roundEnds() {

@@ -433,10 +433,13 @@ final class WallBounds extends Bounds {
         x.beside(2, 1, false);
         c.due("told not of that", x.give(2), 90);
         x.beside(0, 1, true);
+        c.due("told of wall 0", x.give(2), 0);
         x.beside(0, 1, false);
+        c.due("told not of wall 0", x.give(2), 90);
         x.beside(1, 0, true);
+        c.due("told of it the other way", x.give(2), 0);
         x.beside(1, 0, false);
-        c.due("and so with a lesser one", x.give(2), 90);
+        c.due("told not of it the other way", x.give(2), 90);
     }
 
     private void minutesRange() {

@@ -148,6 +148,15 @@ final class WorkBounds extends Bounds {
         c.due("none lacks ahead of its end", x.workOf(0, 7), 0);
         finish(x);
         c.due("lacking", x.workOf(0, 7), 1);
+        x.painter(1, 1);
+        x.wall(1, 1, 0, 0);
+        x.leave(1, 0, 9, true);
+        Check.draw(x, DOT);
+        x.work(1, 1, 1);
+        for (int what = 0; what < 3; what++) {
+            c.due("of the first", x.workOf(0, what), 0);
+            c.due("of the other", x.workOf(1, what), 1);
+        }
     }
 
     private void workStages() {
@@ -268,6 +277,17 @@ final class WorkBounds extends Bounds {
         }
         y.weather(64, 20, 1);
         c.due("each day by itself", y.end(0), 3648);
+        for (int rainy = 0; rainy < 100; rainy++) {
+            for (int good = 0; good < 100; good++) {
+                WallHouse z = dotTown(1);
+                z.work(0, 0, 0);
+                z.weather(good, 20, 0);
+                Check.sunny(z, 200, 202);
+                int end = good == rainy ? -2 : 202;
+                z.weather(rainy, 20, 1);
+                c.due("good on " + good + ", rain on " + rainy, z.end(0), end);
+            }
+        }
     }
 
     private void untoldDays() {
@@ -431,6 +451,14 @@ final class WorkBounds extends Bounds {
         c.due("today", x.ready(4), 1);
         x.pass(1);
         c.due("none is left", x.ready(5), 0);
+        WallHouse y = dotTown(1);
+        y.work(0, 0, 0);
+        Check.sunny(y, 0, 3);
+        c.due("a day ahead of the last that is told", y.ready(2), 0);
+        c.due("the last that is told", y.ready(3), 1);
+        c.due("a day behind it", y.ready(4), 1);
+        y.weather(3, 20, 1);
+        c.due("they aren't enough", y.ready(3649), 0);
     }
 
     private void passRange() {
