@@ -440,6 +440,16 @@ final class TownBounds extends Bounds {
         c.due("the longest left out", x.trail(11), 63);
         x.minutes(0, 3, 120);
         c.due("it can't be", x.trail(11), 123);
+        for (int middle = 0; middle < 3; middle++) {
+            WallHouse y = new WallHouse();
+            for (int i = 0; i < 3; i++) {
+                y.wall(1, 1, 0, 0);
+                y.themes(i, 1 << i);
+            }
+            y.minutes(middle, (middle + 1) % 3, 1);
+            y.minutes(middle, (middle + 2) % 3, 2);
+            c.due("wall " + middle + " between the others", y.trail(7), 3);
+        }
     }
 
     private void trailFewest() {
