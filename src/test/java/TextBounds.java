@@ -68,6 +68,14 @@ final class TextBounds extends Bounds {
         y.wall(1, 1, 0, 0);
         y.sketch(0, 0);
         c.due("all of it was read", y.sketchOf(8), 2);
+        c.refused(y, "400 tokens", Check.draw(y, Check.times("(", 400)), 4);
+        c.due("where() of 400 tokens", y.where(), 0);
+        c.refused(y, "400 tokens of a right", Check.right(y, Check.times("%", 400)), 4);
+        c.due("where() of those", y.where(), 0);
+        String whole = Check.times("say1i(i)(i);", 33) + "if1 ";
+        c.due("its bytes", whole.length(), 400);
+        c.refused(y, "as many tokens of a drawing as can be", Check.draw(y, whole), 4);
+        c.due("where() of the end of all", y.where(), 400);
     }
 
     private void highestFirst() {
@@ -276,6 +284,9 @@ final class TextBounds extends Bounds {
         c.refused(x, "2 ahead of 3", x.right(1), 2);
         c.refused(x, "4 ahead of 3", Check.right(x, "painter 101%"), 4);
         c.due("its fault", x.fault(), 3);
+        c.refused(x, "nine lines ahead of a ninth", Check.right(x, EIGHT + ",town 1%"), 4);
+        c.due("their fault", x.fault(), 4);
+        c.due("their place", x.where(), 64);
         c.refused(x, "a ninth", Check.right(x, "painter 99%"), 3);
         c.due("no fault", x.fault(), 0);
         c.due("the tape is empty", x.count(11), 0);
@@ -603,14 +614,14 @@ final class TextBounds extends Bounds {
             drawingFault("disc 1 (" + kept, 1, 8);
             drawingGood("say 1 " + kept + " 0 0");
         }
-        for (String other : new String[] {"rest", "town", "rec", "rects", "t", "too", "iff", "fro"}) {
+        for (String other : new String[] {"rest", "painter", "owner", "town", "school", "rec", "rects", "t", "too", "iff", "fro"}) {
             drawingFault("rect 1 " + other, 2, 7);
         }
     }
 
     private void unknownSteps() {
         s.term("III", "a WORD that is no STEP where one can begin; at it");
-        for (String word : new String[] {"a", "i", "wide", "high", "from", "to", "rects", "line", "iff"}) {
+        for (String word : new String[] {"a", "i", "wide", "high", "from", "to", "rects", "line", "iff", "painter", "rest"}) {
             drawingFault(" " + word, 2, 1);
             drawingFault(DOT + ";" + word, 2, 13);
             drawingFault("if 1=1[" + word, 2, 7);
@@ -623,7 +634,7 @@ final class TextBounds extends Bounds {
 
     private void behindEach() {
         s.term("III", "(Behind each a WORD that is no VAR is 1.)");
-        for (String word : new String[] {"a", "l", "ij", "wide", "high", "from", "rect", "each"}) {
+        for (String word : new String[] {"a", "l", "ij", "wide", "high", "from", "to", "if", "rect", "each", "painter"}) {
             drawingFault("each " + word, 1, 5);
         }
         drawingFault("each 1", 1, 5);
@@ -692,7 +703,7 @@ final class TextBounds extends Bounds {
         drawingGood("disc 1 1 1 " + Check.times("(1)+", 77) + Check.times("1+", 40) + "1");
         WallHouse x = new WallHouse();
         x.wall(16, 1, 0, 0);
-        String full = Check.times("each n from 1 to 1[", 6) + "say 5a3+n" + Check.times("+1-1", 52) + " 0" + "]]]]]]";
+        String full = Check.times("each n from 0 to 1[", 6) + "say 5a3+n" + Check.times("+1-1", 52) + " 0" + "]]]]]]";
         for (int i = 0; i < 3; i++) {
             c.refused(x, "one of 121", Check.draw(x, PARTS + "+1"), 4);
             c.due("each text has its own 120", Check.draw(x, PARTS), 2 * i);
@@ -700,6 +711,7 @@ final class TextBounds extends Bounds {
             c.due("six deep with 119", Check.draw(x, full), 2 * i + 1);
             x.sketch(2 * i + 1, 0);
             c.due("it is painted, too", x.sketched(4, 0), 5);
+            c.due("all of its loops are done", x.sketchOf(8), 1 + 2 + 4 + 8 + 16 + 32 + 64);
         }
     }
 
@@ -775,7 +787,7 @@ final class TextBounds extends Bounds {
 
     private void rightWords() {
         s.term("VI", "2 a WORD that is no WHO (rest: 1)");
-        for (String word : new String[] {"a", "paint", "painters", "towns", "rests", "rect", "i"}) {
+        for (String word : new String[] {"a", "paint", "painters", "towns", "rests", "rect", "i", "wide", "high", "to"}) {
             rightFault(word + " 5%", 2, 0);
             rightFault("town 5%, " + word, 2, 9);
         }

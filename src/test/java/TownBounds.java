@@ -472,6 +472,24 @@ final class TownBounds extends Bounds {
         x.minutes(0, 2, 6);
         c.due("shorter over three", x.trail(7), 5);
         c.due("three", x.trailOf(), 7);
+        // The fewest may have the higher numbers, and a lesser number doesn't make up for one WALL more.
+        WallHouse y = new WallHouse();
+        for (int i = 0; i < 5; i++) {
+            y.wall(1, 1, 0, 0);
+        }
+        y.themes(0, 1);
+        y.themes(1, 2);
+        y.themes(2, 4);
+        y.themes(3, 3);
+        y.themes(4, 4);
+        y.minutes(0, 1, 5);
+        y.minutes(1, 2, 5);
+        y.minutes(3, 4, 10);
+        c.due("as short over the last two as over the first three", y.trail(7), 10);
+        c.due("the last two", y.trailOf(), 24);
+        y.minutes(3, 4, 11);
+        c.due("shorter over the first three", y.trail(7), 10);
+        c.due("the first three", y.trailOf(), 7);
     }
 
     private void trailSorted() {
