@@ -30,8 +30,31 @@ public final class LanguageTest {
     public static void main(String[] args) throws IOException {
         face();
         classes();
-        text(Files.readString(Path.of("src/main/java/WallHouse.java")));
+        String text = Files.readString(Path.of("src/main/java/WallHouse.java"));
+        text(text);
+        headings(text, Files.readString(Path.of("../shared/DOC.md")));
         C.end();
+    }
+
+    /** The calls stand in the document's order, each group behind the heading that it names. */
+    private static void headings(String text, String doc) {
+        C.part("the headings");
+        Matcher groups = Pattern.compile("Ahead of the calls (`[^\n]+`) the interface says: (---- [^\n]+)\\.").matcher(doc);
+        int found = 0;
+        while (groups.find()) {
+            found++;
+            int from = text.indexOf("    // " + groups.group(2) + "\n");
+            C.yes(groups.group(2) + " stands there", from >= 0);
+            int to = text.indexOf("    // ----", from + 1);
+            StringBuilder names = new StringBuilder();
+            Matcher calls = Pattern.compile("(?m)^    public (?:int|boolean) (\\w+)\\(")
+                    .matcher(text.substring(Math.max(0, from), to < 0 ? text.length() : to));
+            while (calls.find()) {
+                names.append(names.length() == 0 ? "`" : ", `").append(calls.group(1)).append('`');
+            }
+            C.yes("behind " + groups.group(2) + ": " + names, names.toString().equals(groups.group(1)));
+        }
+        C.due("headings", found, 6);
     }
 
     private static void face() {
